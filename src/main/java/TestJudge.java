@@ -54,6 +54,7 @@ public final class TestJudge {
     private static final int[] NO_PLACES = {};
 
     private final byte[] tape = new byte[TAPE];
+    private final Tokens tokens = new Tokens();
     private int taped = 0;
     private int state = 0;
     private int faultKind = NONE;
@@ -101,7 +102,8 @@ public final class TestJudge {
             return refuse(BAD_NUMBER);
         }
         taped = 0;
-        Reader reader = new Reader(new Tokens(tape, n));
+        tokens.cut(tape, n);
+        Reader reader = new Reader(tokens);
         reader.readText();
         faultKind = reader.fault;
         faultPlace = reader.place;
@@ -532,6 +534,8 @@ public final class TestJudge {
 
     private Piece made(int how, Piece x, Piece y, int test) {
         int all = world.allAtoms();
+        Piece yes = new Piece(0, world.testAtoms(test));
+        Piece no = new Piece(0, all & ~yes.empty);
         switch (how) {
             case 0:
                 return Piece.sum(x, y);
@@ -540,9 +544,9 @@ public final class TestJudge {
             case 2:
                 return Piece.star(x, all);
             case 3:
-                return Piece.choice(world.testAtoms(test), x, y, all);
+                return Piece.sum(Piece.row(yes, x), Piece.row(no, y));
             default:
-                return Piece.loop(world.testAtoms(test), x, all);
+                return Piece.row(Piece.star(Piece.row(yes, x), all), no);
         }
     }
 
@@ -713,14 +717,6 @@ public final class TestJudge {
             return piece;
         }
 
-        static Piece choice(int test, Piece x, Piece y, int all) {
-            return sum(row(new Piece(0, test), x), row(new Piece(0, all & ~test), y));
-        }
-
-        static Piece loop(int test, Piece x, int all) {
-            return row(star(row(new Piece(0, test), x), all), new Piece(0, all & ~test));
-        }
-
         /** Only a piece that is being made calls this. */
         private void copyPlaces(Piece x, int at) {
             if (at + x.size > size) {
@@ -883,51 +879,61 @@ public final class TestJudge {
         }
     }
 
-    /** The text's tokens, one in hand at a time. */
+    /** A text's tokens, cut once, then taken in hand one at a time. */
     private static final class Tokens {
-        final int length;
-        /** The token in hand: END_OF_TEXT, NO_TOKEN, NAME, a sign's byte, or a packed word that is no name. */
+        int count = 0;
+        /** The one in hand: END_OF_TEXT, NO_TOKEN, NAME, a sign's byte, or a packed word that is no name. */
         int kind = END_OF_TEXT;
         int word = 0;
         int place = 0;
-        private final byte[] text;
         private int behind = 0;
+        private final int[] kinds = new int[TAPE + 1];
+        private final int[] words = new int[TAPE + 1];
+        private final int[] places = new int[TAPE + 1];
 
-        Tokens(byte[] text, int length) {
-            this.text = text;
-            this.length = length < text.length ? length : text.length;
+        /** Cuts the first bytes of a text, and takes the first token in hand. */
+        void cut(byte[] text, int bytes) {
+            int length = bytes < text.length ? bytes : text.length;
+            count = 0;
+            int at = 0;
+            while (at < length) {
+                int start = at;
+                int packed = 0;
+                while (at < length && text[at] >= 'a' && text[at] <= 'z') {
+                    packed = packed << 5 | text[at] - 'a' + 1;
+                    at++;
+                }
+                if (at > start) {
+                    put(at - start > 6 ? NO_TOKEN : isFixed(packed) ? packed : NAME, packed, start);
+                } else {
+                    if (text[at] != 10 && text[at] != 32) {
+                        put(isSign(text[at]) ? text[at] : NO_TOKEN, 0, start);
+                    }
+                    at++;
+                }
+            }
+            put(END_OF_TEXT, 0, length);
+            behind = 0;
+            advance();
         }
 
+        private void put(int newKind, int newWord, int newPlace) {
+            if (count < kinds.length) {
+                kinds[count] = newKind;
+                words[count] = newWord;
+                places[count] = newPlace;
+                count++;
+            }
+        }
+
+        /** The end stays in hand. */
         void advance() {
-            while (behind < length && (text[behind] == 10 || text[behind] == 32)) {
+            if (behind < count) {
+                kind = kinds[behind];
+                word = words[behind];
+                place = places[behind];
                 behind++;
             }
-            place = behind;
-            if (behind >= length) {
-                kind = END_OF_TEXT;
-            } else if (isLetter(text[behind])) {
-                takeWord();
-            } else {
-                kind = isSign(text[behind]) ? text[behind] : NO_TOKEN;
-                behind++;
-            }
-        }
-
-        private void takeWord() {
-            word = 0;
-            while (behind < length && isLetter(text[behind])) {
-                word = word << 5 | text[behind] - 96;
-                behind++;
-            }
-            if (behind - place > 6) {
-                kind = NO_TOKEN;
-            } else {
-                kind = isFixed(word) ? word : NAME;
-            }
-        }
-
-        private static boolean isLetter(int sign) {
-            return sign >= 97 && sign <= 122;
         }
 
         private static boolean isSign(int sign) {
@@ -990,8 +996,7 @@ public final class TestJudge {
         }
 
         void readText() {
-            tokens.advance();
-            for (int line = 0; line <= tokens.length && fault == 0 && tokens.kind != END_OF_TEXT; line++) {
+            for (int line = 0; line <= tokens.count && fault == 0 && tokens.kind != END_OF_TEXT; line++) {
                 switch (tokens.kind) {
                     case WORD_TESTS:
                         readNames(true);
@@ -1029,7 +1034,7 @@ public final class TestJudge {
             if (tokens.kind != NAME) {
                 fail(CANNOT_STAND);
             }
-            for (int i = 0; i <= tokens.length && fault == 0 && tokens.kind == NAME; i++) {
+            for (int i = 0; i <= tokens.count && fault == 0 && tokens.kind == NAME; i++) {
                 readNewName(tests);
             }
             endLine(0, 0);
@@ -1115,7 +1120,7 @@ public final class TestJudge {
             int all = world.allAtoms();
             Piece total = new Piece(0, 0);
             Piece row = new Piece(0, all);
-            for (int i = 0; i <= tokens.length && fault == 0; i++) {
+            for (int i = 0; i <= tokens.count && fault == 0; i++) {
                 Piece one = readBase(open);
                 row = Piece.row(row, skipStars() ? Piece.star(one, all) : one);
                 if (tokens.kind == '+') {
@@ -1131,7 +1136,7 @@ public final class TestJudge {
 
         private boolean skipStars() {
             boolean some = false;
-            for (int i = 0; i <= tokens.length && fault == 0 && tokens.kind == '*'; i++) {
+            for (int i = 0; i <= tokens.count && fault == 0 && tokens.kind == '*'; i++) {
                 some = true;
                 tokens.advance();
             }
@@ -1195,7 +1200,7 @@ public final class TestJudge {
         private Piece readNot(int open) {
             Piece piece = readBase(open);
             needPlain(piece);
-            return new Piece(0, world.allAtoms() & ~piece.empty);
+            return opposite(piece);
         }
 
         private Piece readIf(int open) {
@@ -1206,7 +1211,7 @@ public final class TestJudge {
             expect(WORD_ELSE);
             Piece no = readSum(open);
             expect(WORD_END);
-            return Piece.choice(test.empty, yes, no, world.allAtoms());
+            return Piece.sum(Piece.row(test, yes), Piece.row(opposite(test), no));
         }
 
         private Piece readWhile(int open) {
@@ -1215,7 +1220,11 @@ public final class TestJudge {
             expect(WORD_DO);
             Piece body = readSum(open);
             expect(WORD_END);
-            return Piece.loop(test.empty, body, world.allAtoms());
+            return Piece.row(Piece.star(Piece.row(test, body), world.allAtoms()), opposite(test));
+        }
+
+        private Piece opposite(Piece plain) {
+            return new Piece(0, world.allAtoms() & ~plain.empty);
         }
 
         private void needPlain(Piece piece) {
@@ -1320,6 +1329,7 @@ public final class TestJudge {
         private final int[] situations = new int[SITUATIONS];
         /** By number: the number it was met from, times LETTERS, and the letter. */
         private final int[] came = new int[SITUATIONS];
+        /** By number, up to met: how many parts of a length lead there; later: of a length more. */
         private final long[] ways = new long[SHARED];
         private final long[] later = new long[SHARED];
 
@@ -1433,7 +1443,7 @@ public final class TestJudge {
             return k % 2 == 0 ? letter / MOST_ACTS : letter % MOST_ACTS;
         }
 
-        /** How many strings of a length both have; ways and later are all 0 ahead of it and behind. */
+        /** How many strings of a length both have; later is all 0 ahead of it and behind. */
         long countShared(int length) {
             ways[0] = 1;
             for (int done = 0; done < length; done++) {
@@ -1443,7 +1453,6 @@ public final class TestJudge {
             for (int i = 0; i < SHARED && i < met; i++) {
                 look(i);
                 strings += ways[i] * Integer.bitCount(oneEnds & otherEnds);
-                ways[i] = 0;
             }
             return strings;
         }

@@ -599,6 +599,27 @@ public final class PromisesTest {
         ASKED.denied("layer 7", k, k.make(2, 6, 0, 0), 3);
         ASKED.denied("layer 7 of the other", k, k.make(0, 0, 6, 0), 3);
         ASKED.given("layer 1 beside it", k, k.make(2, 0, 6, 0), 7);
+        // Layers go with their programs when numbers change, and come back with them.
+        k.drop(0);
+        k.drop(6);
+        k.drop(0);
+        k.undo();
+        ASKED.denied("layer 7 of number 5", k, k.make(2, 5, 5, 0), 3);
+        ASKED.given("layer 6 of number 4", k, k.make(2, 4, 4, 0), 6);
+        for (int i = 0; i < 5; i++) {
+            k.drop(0);
+        }
+        ASKED.denied("layer 7 of number 0", k, k.make(2, 0, 0, 0), 3);
+        k.drop(0);
+        k.drop(0);
+        k.drop(0);
+        ASKED.given("nine actions, of which 8 are kept", k, k.many(6), 8);
+        while (k.many(6) > 0) {
+            k.undo();
+        }
+        int last = k.many(2) - 1;
+        ASKED.denied("layer 7 of the last", k, k.make(2, last, last, 0), 3);
+        ASKED.given("layer 6 of the one ahead", k, k.make(2, last - 1, last, 0), last + 1);
     }
 
     private static void drop() {
@@ -699,6 +720,13 @@ public final class PromisesTest {
         ASKED.given("rests", k, k.rests(0), 88);
         ASKED.denied("more than 60", k, k.print(0), 3);
         ASKED.due("OUT stays", k.out(2), '2');
+        TestJudge sixty = Asked.told("tests b c d;acts p;zero b p 1 p d;let x=(!c p+p p p(b+!d)p)*;let y=!b c+b !c d;");
+        ASKED.given("rests", sixty, sixty.rests(0), 60);
+        ASKED.due("60 are printed", sixty.print(0) > 0 ? 1 : 0, 1);
+        TestJudge more = Asked.told("tests b c d;acts p;zero c p (c+!d b) p (b+!d);let x=(p p p p+!d p !c)*;");
+        ASKED.given("rests", more, more.rests(0), 61);
+        ASKED.denied("61 are not", more, more.print(0), 3);
+        ASKED.due("a hundred", Asked.printed(sixty, 1).equals("0:100;") ? 1 : 0, 1);
         TestJudge m = Asked.told("tests b c d;acts p;let x=(p (b p+c p) d p !c+p !b)*;let y=p b p p c p p;");
         ASKED.given("many rests", m, m.rests(1), 6);
         String table = Asked.printed(m, 1);
