@@ -3,7 +3,7 @@ public final class ActionEdgesTest {
     private static final Asked ASKED = new Asked("ActionEdgesTest");
     private static final Edges EDGES = new Edges(ASKED);
     private static final String EIGHT = "tests b;acts p;let a=p;let c=1;let d=1;let e=1;let f=1;let g=1;let h=1;let i=p p p;";
-    private static final String SIXTY_FACT = "tests b c d;acts p;zero b p 1 p d;let x=(!c p+p p p(b+!d)p)*;let y=d;";
+    private static final String SIXTY = "tests b c d;acts p;zero b p 1 p d;let x=(!c p+p p p(b+!d)p)*;let y=d;";
     private static final String SIXTY_ONE = "tests b c d;acts p;zero c p (c+!d b) p (b+!d);let x=(p p p p+!d p !c)*;let y=d;";
 
     public static void main(String[] args) throws IllegalAccessException {
@@ -165,6 +165,101 @@ public final class ActionEdgesTest {
         ASKED.given("p q is still there", j, j.first(0, 1), 0);
         ASKED.given("p q is still there", j, j.first(0, 3), 1);
         ASKED.given("its weight", j, j.program(0, 0), 2);
+    }
+
+    /** How often * can be made, of a PROGRAM and then of what was made of it; all of it is undone. */
+    private static int more(TestJudge j, int program) {
+        int made = program;
+        int times = 0;
+        for (int i = 0; i < 8 && made >= 0; i++) {
+            made = j.make(2, made, made, 0);
+            times += made < 0 ? 0 : 1;
+        }
+        ASKED.due("no more", j.status(), 3);
+        for (int i = 0; i < times; i++) {
+            j.undo();
+        }
+        return times;
+    }
+
+    static void promise37_makeLayersGoWithTheirNumbers() {
+        TestJudge j = Asked.told("tests b;acts p;let x=b;let y=p;");
+        chain(j, 2, 0);
+        j.drop(1);
+        j.drop(0);
+        // Layers 1 to 6 stand at numbers 0 to 5 now, then 2 to 6 at 0 to 4, and so on.
+        for (int held = 6; held > 0; held--) {
+            for (int p = 0; p < held; p++) {
+                ASKED.due("more of " + p + " of " + held, more(j, p), Math.min(held - 1 - p, 8 - held));
+            }
+            j.drop(0);
+        }
+    }
+
+    static void promise40_undoOfADropMovesLayersUpAgain() {
+        for (int gone = 0; gone < 6; gone++) {
+            TestJudge j = Asked.told("tests b;acts p;let x=b;let y=p;");
+            chain(j, 2, 0);
+            j.drop(1);
+            j.drop(0);
+            j.drop(gone);
+            j.undo();
+            for (int p = 0; p < 6; p++) {
+                ASKED.due("more of " + p + ", " + gone + " undone", more(j, p), Math.min(5 - p, 2));
+            }
+        }
+    }
+
+    /** What can be seen of the PROGRAMS. */
+    private static String held(TestJudge j) {
+        StringBuilder all = new StringBuilder();
+        for (int p = 0; p < j.many(2); p++) {
+            all.append(j.program(p, 0)).append(' ').append(Asked.printed(j, p)).append(more(j, p)).append('\n');
+        }
+        return all.toString();
+    }
+
+    static void promise40_undo8OfMoreGivesBackAllThatWas() {
+        // Eleven drops and makes; eight go back to what the first three left.
+        TestJudge j = Asked.told("tests b;acts p q;let x=p;let y=q q;let z=b;let w=!b q;");
+        TestJudge k = Asked.told("tests b;acts p q;let x=p;let y=q q;let z=b;let w=!b q;");
+        for (TestJudge judge : new TestJudge[] {j, k}) {
+            judge.drop(1);
+            judge.make(2, 0, 0, 0);
+            judge.make(2, 3, 0, 0);
+        }
+        int[] dropped = {1, 4, 0, 2, 1};
+        for (int i = 0; i < 5; i++) {
+            if (i == 2 || i == 3 || i == 4) {
+                j.make(i % 2, 0, 1, 0);
+            }
+            j.drop(Math.min(dropped[i], j.many(2) - 1));
+        }
+        ASKED.given("many(6)", j, j.many(6), 8);
+        for (int i = 0; i < 8; i++) {
+            j.undo();
+        }
+        ASKED.denied("undo()", j, j.undo(), 5);
+        String got = held(j);
+        String want = held(k);
+        ASKED.due(got + "not " + want, got.equals(want) ? 1 : 0, 1);
+    }
+
+    static void promise40_undoAMakeLeavesTheOthers() {
+        for (int how = 0; how < 5; how++) {
+            TestJudge j = new TestJudge();
+            Edges.withoutTape(j);
+            TestJudge k = new TestJudge();
+            Edges.withoutTape(k);
+            j.make(how, 0, 1, 0);
+            ASKED.given("undo()", j, j.undo(), 3);
+            k.undo();
+            k.make(2, 1, 0, 0);
+            k.undo();
+            k.assume(0, false);
+            // Neither has a WALK now.
+            EDGES.unchanged("make(" + how + ", 0, 1, 0) undone", j, k);
+        }
     }
 
     // ---- promise 38: drop
@@ -410,6 +505,21 @@ public final class ActionEdgesTest {
         printed("tests b;acts p q;zero p q;let x=(p+q)*;", "0:3 0a1 0b0 1a1 1b0;1:3 0a1 1a1;");
     }
 
+    static void promise41_printAtomsAsANumber() {
+        for (int set = 1; set < 256; set++) {
+            StringBuilder text = new StringBuilder("tests b c d;let x=0");
+            for (int atom = 0; atom < 8; atom++) {
+                if ((set >> atom & 1) != 0) {
+                    text.append((atom & 1) == 0 ? "+!b" : "+b").append((atom & 2) == 0 ? "!c" : " c");
+                    text.append((atom & 4) == 0 ? "!d" : " d");
+                }
+            }
+            TestJudge j = Asked.told(text.append(";").toString());
+            ASKED.given("atoms(0)", j, j.atoms(0), set);
+            ASKED.due("0:" + set + ";", Asked.printed(j, 0).equals("0:" + set + ";") ? 1 : 0, 1);
+        }
+    }
+
     static void promise41_printNumbersOfTwoDigits() {
         // Eleven RESTS, each 9 acts and more behind the start.
         TestJudge j = Asked.told("tests b c;acts p;zero !c p (!c+!c);zero p b;let x=((p !b p !b !b p p + p !c !c)*)*;");
@@ -432,11 +542,25 @@ public final class ActionEdgesTest {
     }
 
     static void promise41_print60RestsAndNot61() {
-        TestJudge j = Asked.told(SIXTY_FACT);
+        TestJudge j = Asked.told(SIXTY);
         ASKED.given("rests(0)", j, j.rests(0), 60);
-        String table = Asked.printed(j, 0);
-        ASKED.due("60 lines", table.length() - table.replace(";", "").length(), 60);
-        ASKED.due("the last one", table.contains(";59:") ? 1 : 0, 1);
+        int size = j.print(0);
+        StringBuilder table = new StringBuilder();
+        for (int i = 0; i < size; i++) {
+            // A judge is good for 512 calls: each of some reads a part of it.
+            if (i % 400 == 0) {
+                j = Asked.told(SIXTY);
+                ASKED.given("print(0)", j, j.print(0), size);
+            }
+            table.append((char) j.out(i));
+        }
+        String[] lines = table.toString().split(";");
+        ASKED.due("lines", lines.length, 60);
+        for (int k = 0; k < lines.length; k++) {
+            ASKED.due("line " + lines[k], lines[k].startsWith(k + ":" + j.rest(0, k)) ? 1 : 0, 1);
+        }
+        ASKED.due("its end", table.charAt(size - 1), ';');
+        ASKED.due("no more", Edges.throwing(j, size) ? 1 : 0, 1);
         TestJudge k = Asked.told(SIXTY_ONE);
         ASKED.given("rests(0)", k, k.rests(0), 61);
         ASKED.denied("print(0)", k, k.print(0), 3);

@@ -299,6 +299,16 @@ public final class EquationEdgesTest {
         }
     }
 
+    static void promise22_bothByManyWays() {
+        // Found by a search, counted a second time with Chart: some hundreds of pairs of RESTS are met.
+        TestJudge j = Asked.told("tests b c;acts p;let x=((((p p p)*+(c p p)*c))*c)*;let y=(((b p p p p)*+!c p!c)*b)*;");
+        int[] both = {4, 0, 0, 0, 32, 64, 256, 0, 12032, 31232, 16384, 104448, 2327040};
+        for (int n = 0; n <= 12; n++) {
+            ASKED.given("both(0, 1, " + n + ")", j, j.both(0, 1, n), both[n]);
+            ASKED.given("both(1, 0, " + n + ")", j, j.both(1, 0, n), both[n]);
+        }
+    }
+
     static void promise22_bothByWhatIsAssumed() {
         TestJudge j = Asked.told("tests b;acts p;zero b p b;let x=p*;let y=(p p)*;");
         int[] fibonacci = {2, 3, 5, 8, 13, 21, 34, 55, 89, 144, 233, 377, 610};

@@ -23,10 +23,11 @@ public final class ExtremesTest {
         face.sort(Comparator.comparing(Method::getName));
         Random random = new Random(11);
         int wrong = 0;
-        for (int run = 0; run < 400; run++) {
+        for (int run = 0; run < 900; run++) {
             TestJudge judge = new TestJudge();
-            for (int call = 0; call < 480; call++) {
-                if (call % 160 == 40) {
+            // With each goes one of status(), and some to tell texts: a judge is good for 512.
+            for (int call = 0; call < 210; call++) {
+                if (call % 70 == 15) {
                     Asked.load(judge, TextMaker.text(random));
                 }
                 wrong += fine(judge, face.get(random.nextInt(face.size())), random) ? 0 : 1;

@@ -3,7 +3,9 @@ import java.util.Random;
 
 /** Random texts and calls, each answered by TestJudge and by Model: both have to say the same. */
 public final class ModelTest {
-    private static final int RUNS = 700;
+    private static final int RUNS = 1500;
+    /** A judge is good for 512 calls. */
+    private static final int LAST_CALL = 512;
     private static int wrong = 0;
 
     private final Random random;
@@ -32,10 +34,10 @@ public final class ModelTest {
 
     private void run(long seed) {
         int before = wrong;
-        while (calls < 400 && wrong == before) {
+        while (calls < 320 && wrong == before) {
             tell(random.nextInt(4) == 0 ? TextMaker.spoilt(random) : TextMaker.text(random));
             int asked = random.nextInt(120);
-            for (int i = 0; i < asked && wrong == before; i++) {
+            for (int i = 0; i < asked && calls < 420 && wrong == before; i++) {
                 ask();
             }
         }
@@ -44,10 +46,12 @@ public final class ModelTest {
         }
     }
 
+    /** Of a call, and a call of status(). */
     private boolean due(String call, long got, long want) {
-        calls++;
-        boolean fine = got == want && judge.status() == model.status();
-        said.append(call).append(" -> ").append(got).append(" status ").append(judge.status());
+        calls += 2;
+        int status = judge.status();
+        boolean fine = got == want && status == model.status();
+        said.append(call).append(" -> ").append(got).append(" status ").append(status);
         if (!fine) {
             said.append("  BUT DUE ").append(want).append(" status ").append(model.status());
             wrong++;
@@ -75,6 +79,7 @@ public final class ModelTest {
         due("many(1)", judge.many(1), model.many(1));
         tests = judge.many(0);
         acts = judge.many(1);
+        calls += 2;
         if (random.nextInt(3) == 0) {
             due("load(0)", judge.load(-1), model.load(-1));
         }
@@ -96,7 +101,10 @@ public final class ModelTest {
     }
 
     private int program() {
-        return number(judge.many(2) + model.many(2) * 0);
+        calls++;
+        int programs = judge.many(2);
+        model.many(2);
+        return number(programs);
     }
 
     private int set() {
@@ -212,7 +220,8 @@ public final class ModelTest {
     private void print(int p) {
         int size = judge.print(p);
         due("print(" + p + ")", size, model.print(p));
-        for (int i = -1; i <= size + 1 && i < 8000; i++) {
+        for (int i = -1; i <= size + 1 && calls < LAST_CALL; i++) {
+            calls++;
             int got;
             try {
                 got = judge.out(i);

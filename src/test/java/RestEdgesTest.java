@@ -167,6 +167,15 @@ public final class RestEdgesTest {
         }
     }
 
+    static void promise26_clearIsAskedOfTheFirstAtomAndTheFirstRest() {
+        TestJudge j = Asked.told("tests b;acts p q;let x=!b p+!b q;let y=!b+!b p;let z=(!b p)*;let w=p*;let v=!b p;"
+                + "let u=(b p)*!b;let t=p q+q p!b;");
+        int[] clear = {0, 0, 0, 0, 1, 1, 0};
+        for (int p = 0; p < 7; p++) {
+            ASKED.given("clear(" + p + ")", j, j.clear(p), clear[p]);
+        }
+    }
+
     static void promise26_clearIsAskedOfTheLastRestToo() {
         TestJudge j = Asked.told("tests b c d;acts p q r;let x=p p p(1+b c d r);let y=p p(p+b c d r);let z=p p(!b p+b c d r);");
         ASKED.given("to end, or by r with the last ATOM", j, j.clear(0), 0);
@@ -315,6 +324,30 @@ public final class RestEdgesTest {
         int[] strongest = {15, 14, 12, 8};
         for (int atom = 0; atom < 4; atom++) {
             ASKED.given("strongest() of " + atom, j, j.strongest(1 << atom, 1), strongest[atom]);
+        }
+    }
+
+    static void promise30_strongestThroughRestsMetEarlier() {
+        // The later an ATOM leads away from the start, the earlier is the REST that comes behind it.
+        TestJudge j = Asked.told("tests b c;acts p q;let x=(!b!c+(b!c+(!b c+b c p)p)p)p q b!c;");
+        rests(j, 0, 0, 0, 0, 0, 0, 2);
+        for (int atom = 0; atom < 4; atom++) {
+            ASKED.given("strongest() of " + atom, j, j.strongest(1 << atom, 0), 2);
+            ASKED.given("right() of " + atom, j, j.right(1 << atom, 0, 13), 0);
+        }
+        ASKED.given("weakest(0, 13)", j, j.weakest(0, 13), 0);
+        ASKED.given("uses(0, 0)", j, j.uses(0, 0), 15);
+        ASKED.given("uses(0, 1)", j, j.uses(0, 1), 2);
+    }
+
+    static void promise30_strongestBackThroughTheFirstRest() {
+        TestJudge j = Asked.told("tests b;acts p;let x=(!b p b p)*;let y=(b p)*;let z=(!b p)*;");
+        int[] first = {3, 1, 3};
+        int[] second = {2, 3, 2};
+        for (int p = 0; p < 3; p++) {
+            rests(j, p, p == 0 ? new int[] {3, 0} : new int[] {3});
+            ASKED.given("strongest(1, " + p + ")", j, j.strongest(1, p), first[p]);
+            ASKED.given("strongest(2, " + p + ")", j, j.strongest(2, p), second[p]);
         }
     }
 

@@ -83,7 +83,7 @@ final class Sight {
 
     /** Of the two last programs: how often something can be made of them, one behind the other. */
     private void layers() {
-        for (int most = judge.many(2); most > 2; most--) {
+        for (int i = 0; i < 8 && judge.many(2) > 2; i++) {
             judge.drop(0);
         }
         for (int p = 0; p < judge.many(2) && p < 2; p++) {
@@ -91,7 +91,7 @@ final class Sight {
             for (int i = 0; i < 6 && made >= 0; i++) {
                 made = (int) see("make(2, ..)", judge.make(2, made, made, 0));
             }
-            while (judge.many(2) > 2) {
+            for (int i = 0; i < 8 && judge.many(2) > 2; i++) {
                 judge.drop(2);
             }
         }

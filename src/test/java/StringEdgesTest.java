@@ -496,6 +496,16 @@ public final class StringEdgesTest {
         }
     }
 
+    static void promise10_usesOfTheFirstAtomAndActAlone() {
+        TestJudge j = Asked.told("tests b c;acts p q;let x=!b!c p!b!c;let y=b c q b c;let z=(!b!c p)*;");
+        int[][] uses = {{1, 1, 1}, {8, 8, 2}, {15, 15, 1}};
+        for (int p = 0; p < 3; p++) {
+            for (int what = 0; what < 3; what++) {
+                ASKED.given("uses(" + p + ", " + what + ")", j, j.uses(p, what), uses[p][what]);
+            }
+        }
+    }
+
     static void promise10_usesOfAStringsEndFarBehind() {
         TestJudge j = Asked.told("tests b c d;acts p q r;let x=!b!c!d p b p c p d r b c d;");
         int[] uses = {1, 128, 5};
@@ -582,6 +592,18 @@ public final class StringEdgesTest {
         ASKED.given("(p 0)*", j, j.greatest(3), 0);
         ASKED.denied("(p b q !b)* p !b p", j, j.greatest(4), 5);
         ASKED.given("what goes round comes to no end", j, j.greatest(5), 0);
+    }
+
+    static void promise13_greatestWhereOneLetterAloneGoesRound() {
+        TestJudge j = Asked.told("acts p;let x=p*;let y=p p*;let z=p p p p*;let w=p p p p(0 p)*;");
+        for (int p = 0; p < 3; p++) {
+            ASKED.denied("greatest(" + p + ")", j, j.greatest(p), 5);
+        }
+        ASKED.given("greatest(3)", j, j.greatest(3), 4);
+        TestJudge k = Asked.told("tests b c d;acts p q r;let x=(!b!c!d p)*;let y=(b c d r)*;let z=(p(b c d r)*)q;");
+        for (int p = 0; p < 3; p++) {
+            ASKED.denied("greatest(" + p + ")", k, k.greatest(p), 5);
+        }
     }
 
     static void promise13_greatestByAFact() {

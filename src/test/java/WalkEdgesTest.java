@@ -262,6 +262,21 @@ public final class WalkEdgesTest {
         walked(j, 0, 2, 1, 1);
     }
 
+    static void promise35_stepRightBehindCallsAboutOthers() {
+        TestJudge j = Asked.told("tests b;acts p q;let x=p q p b;let y=(p+q)*;let z=0;let w=q;");
+        j.walk(0);
+        j.rests(1);
+        ASKED.given("step(0, 0) behind rests(1)", j, j.step(0, 0), 1);
+        j.print(2);
+        ASKED.given("step(0, 1) behind print(2)", j, j.step(0, 1), 2);
+        j.greatest(3);
+        ASKED.denied("step(0, 1) behind greatest(3)", j, j.step(0, 1), 5);
+        j.rests(3);
+        ASKED.given("step(0, 0) behind rests(3)", j, j.step(0, 0), 3);
+        j.rests(1);
+        ASKED.given("walked(3) behind rests(1)", j, j.walked(3), 2);
+    }
+
     static void promise36_walkGoesOnOverOtherCalls() {
         TestJudge j = Asked.told("tests b;acts p q;zero 0;let x=p q b;let y=(p+q)*;let z=0;");
         j.walk(0);
