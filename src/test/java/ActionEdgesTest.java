@@ -210,6 +210,22 @@ public final class ActionEdgesTest {
         }
     }
 
+    static void promise40_undoOfADropStillHasItsLayersWhenOlderOnesAreForgotten() {
+        TestJudge j = Asked.told("tests b;let x=b;zero 0;");
+        chain(j, 2, 0);
+        j.drop(6);
+        for (int i = 0; i < 4; i++) {
+            j.assume(0, i % 2 == 1);
+        }
+        ASKED.given("many(6)", j, j.many(6), 8);
+        for (int left = 7; left > 3; left--) {
+            undone(j, left, 6, left % 2 == 1 ? 0 : 1);
+        }
+        undone(j, 3, 7, 1);
+        ASKED.denied("layer 7", j, j.make(2, 6, 6, 0), 3);
+        ASKED.given("layer 6", j, j.make(2, 5, 5, 0), 7);
+    }
+
     /** What can be seen of the PROGRAMS. */
     private static String held(TestJudge j) {
         StringBuilder all = new StringBuilder();
@@ -245,21 +261,27 @@ public final class ActionEdgesTest {
         ASKED.due(got + "not " + want, got.equals(want) ? 1 : 0, 1);
     }
 
-    static void promise40_undoAMakeLeavesTheOthers() {
-        for (int how = 0; how < 5; how++) {
-            TestJudge j = new TestJudge();
-            Edges.withoutTape(j);
-            TestJudge k = new TestJudge();
-            Edges.withoutTape(k);
-            j.make(how, 0, 1, 0);
-            ASKED.given("undo()", j, j.undo(), 3);
-            k.undo();
-            k.make(2, 1, 0, 0);
-            k.undo();
-            k.assume(0, false);
-            // Neither has a WALK now.
-            EDGES.unchanged("make(" + how + ", 0, 1, 0) undone", j, k);
+    private static void undoneAgain(String action, Edges.Call call) {
+        EDGES.alike(action + " and undo()", j -> {
+            Edges.rich(j);
+            ASKED.due(action, call.on(j) >= 0 ? 1 : 0, 1);
+            ASKED.given(action + ", undo()", j, j.undo(), 3);
+        }, j -> {
+            // Its WALK ends, too.
+            Edges.rich(j);
+            j.drop(4);
+            j.undo();
+        });
+    }
+
+    static void promise40_undoGivesBackAllThatWas() {
+        for (int i = 0; i < 5; i++) {
+            int number = i;
+            undoneAgain("make(" + i + ", ..)", j -> j.make(number, 1, 0, 1));
+            undoneAgain("drop(" + i + ")", j -> j.drop(number));
         }
+        undoneAgain("assume(0, true)", j -> j.assume(0, true));
+        undoneAgain("assume(1, false)", j -> j.assume(1, false));
     }
 
     // ---- promise 38: drop
@@ -359,12 +381,14 @@ public final class ActionEdgesTest {
     }
 
     static void promise40_undoADropPutsItInItsPlace() {
-        for (int gone = 0; gone < 8; gone++) {
-            TestJudge j = Asked.told(EIGHT.replace("=1;", "=b;"));
-            TestJudge k = Asked.told(EIGHT.replace("=1;", "=b;"));
-            j.drop(gone);
-            ASKED.given("undo()", j, j.undo(), 0);
-            EDGES.unchanged("drop(" + gone + ") undone", j, k);
+        String text = EIGHT.replace("=1;", "=b;");
+        for (int i = 0; i < 8; i++) {
+            int gone = i;
+            EDGES.alike("drop(" + gone + ") undone", j -> {
+                Asked.load(j, text);
+                j.drop(gone);
+                ASKED.given("undo()", j, j.undo(), 0);
+            }, j -> Asked.load(j, text));
         }
     }
 

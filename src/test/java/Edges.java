@@ -50,38 +50,48 @@ final class Edges {
 
     /** A call of a judge that is set up: NONE, its status, and nothing else can be seen to have changed. */
     void refused(String call, Setup setup, Call refused, int status) {
-        TestJudge one = new TestJudge();
-        setup.on(one);
-        asked.denied(call, one, refused.on(one), status);
-        TestJudge other = new TestJudge();
-        setup.on(other);
-        unchanged(call, one, other);
+        TestJudge judge = new TestJudge();
+        setup.on(judge);
+        asked.denied(call, judge, refused.on(judge), status);
+        alike(call, j -> {
+            setup.on(j);
+            refused.on(j);
+        }, setup);
     }
 
-    /** Two judges that have to be alike in all that can be seen, but their status; both are used up. */
-    void unchanged(String call, TestJudge one, TestJudge other) {
-        String[] got = Sight.of(one).split("\n");
-        String[] want = Sight.of(other).split("\n");
-        int apart = Arrays.mismatch(got, want);
-        if (apart >= 0) {
-            String line = apart < got.length ? got[apart] : "less";
-            String due = apart < want.length ? want[apart] : "less";
-            asked.due(call + " changed something: " + line + ", not " + due + ":", 1, 0);
-        } else {
-            asked.due(call, 0, 0);
-        }
-    }
-
-    /** out() throws, and nothing else can be seen to have changed. */
+    /** out() throws, and nothing can be seen to have changed. */
     void thrown(String call, Setup setup, int i) {
-        TestJudge one = new TestJudge();
-        setup.on(one);
-        int status = one.status();
-        asked.due(call + " throws", throwing(one, i) ? 1 : 0, 1);
-        asked.due(call + ", status", one.status(), status);
-        TestJudge other = new TestJudge();
-        setup.on(other);
-        unchanged(call, one, other);
+        TestJudge judge = new TestJudge();
+        setup.on(judge);
+        int status = judge.status();
+        asked.due(call + " throws", throwing(judge, i) ? 1 : 0, 1);
+        asked.due(call + ", status", judge.status(), status);
+        alike(call, j -> {
+            setup.on(j);
+            throwing(j, i);
+        }, setup);
+    }
+
+    /** Behind both ways to get there, a judge is the same in all that can be seen, but its status. */
+    void alike(String call, Setup one, Setup other) {
+        for (int side = 0; side < Sight.SIDES; side++) {
+            String[] got = seen(one, side);
+            String[] want = seen(other, side);
+            int apart = Arrays.mismatch(got, want);
+            if (apart >= 0) {
+                String line = apart < got.length ? got[apart] : "less";
+                String due = apart < want.length ? want[apart] : "less";
+                asked.due(call + " changed something: " + line + ", not " + due + ":", 1, 0);
+                return;
+            }
+        }
+        asked.due(call, 0, 0);
+    }
+
+    private static String[] seen(Setup setup, int side) {
+        TestJudge judge = new TestJudge();
+        setup.on(judge);
+        return Sight.of(judge, side).split("\n");
     }
 
     static boolean throwing(TestJudge judge, int i) {
@@ -118,6 +128,10 @@ final class Edges {
      */
     static void rich(TestJudge judge) {
         withoutTape(judge);
+        tape(judge);
+    }
+
+    static void tape(TestJudge judge) {
         Asked.feed(judge, "let k=1;let k=0;");
     }
 
@@ -126,9 +140,14 @@ final class Edges {
         judge.make(1, 0, 4, 0);
         judge.drop(4);
         judge.assume(0, false);
+        dress(judge, 0, 1);
+    }
+
+    /** To what a judge holds: a fault, OUT, a walk. */
+    static void dress(TestJudge judge, int printed, int walked) {
         Asked.load(judge, "tests if;");
-        judge.print(0);
-        judge.walk(1);
+        judge.print(printed);
+        judge.walk(walked);
         judge.step(0, 0);
     }
 

@@ -209,9 +209,8 @@ public final class RefusedEdgesTest {
         Asked.load(judge, "tests b;acts p q;let x=p q p q;let y=p q p;let z=p*;zero p b q;");
         judge.assume(0, false);
         judge.make(2, 1, 0, 0);
-        judge.print(2);
-        judge.walk(0);
-        judge.step(1, 0);
+        Edges.dress(judge, 2, 0);
+        Edges.tape(judge);
     }
 
     static void promise21_swaps2And3() {
@@ -320,13 +319,11 @@ public final class RefusedEdgesTest {
         rich("fewest(0, 2): by none", 5, j -> j.fewest(0, 2));
     }
 
-    static void promise33_fewestChangesNothingEither() {
-        TestJudge one = new TestJudge();
-        Edges.rich(one);
-        ASKED.given("fewest(3, 2)", one, one.fewest(3, 2), 1);
-        TestJudge other = new TestJudge();
-        Edges.rich(other);
-        EDGES.unchanged("fewest(3, 2)", one, other);
+    static void promise33_fewestAssumesNothing() {
+        EDGES.alike("fewest(3, 2)", j -> {
+            Edges.rich(j);
+            ASKED.given("fewest(3, 2)", j, j.fewest(3, 2), 1);
+        }, Edges::rich);
     }
 
     static void promise34_walk2And5() {
@@ -343,12 +340,13 @@ public final class RefusedEdgesTest {
         }
         fresh("step(0, 0): no ACT", 2, j -> j.step(0, 0));
         rich("step(3, 0): nothing is left", 5, j -> j.step(3, 0));
-        Edges.Setup noWalk = j -> {
-            Edges.rich(j);
-            j.undo();
-        };
-        EDGES.refused("step(0, 0) without a WALK", noWalk, j -> j.step(0, 0), 5);
-        EDGES.refused("step(4, 0) without a WALK", noWalk, j -> j.step(4, 0), 2);
+        EDGES.refused("step(0, 0) without a WALK", RefusedEdgesTest::noWalk, j -> j.step(0, 0), 5);
+        EDGES.refused("step(4, 0) without a WALK", RefusedEdgesTest::noWalk, j -> j.step(4, 0), 2);
+    }
+
+    private static void noWalk(TestJudge judge) {
+        Edges.rich(judge);
+        judge.undo();
     }
 
     static void promise36_walked1And5() {
@@ -356,6 +354,7 @@ public final class RefusedEdgesTest {
         for (int what = 0; what < 4; what++) {
             int asked = what;
             fresh("walked(" + what + ")", 5, j -> j.walked(asked));
+            EDGES.refused("walked(" + what + ") without a WALK", RefusedEdgesTest::noWalk, j -> j.walked(asked), 5);
         }
     }
 
@@ -381,7 +380,8 @@ public final class RefusedEdgesTest {
         judge.make(2, 0, 0, 0);
         judge.make(0, 2, 2, 0);
         judge.make(4, 0, 0, 1);
-        judge.walk(1);
+        Edges.dress(judge, 0, 1);
+        Edges.tape(judge);
     }
 
     static void promise37_make3ThereAre8() {
@@ -407,8 +407,8 @@ public final class RefusedEdgesTest {
         for (int i = 0; i < 6; i++) {
             judge.make(2, i, 0, 0);
         }
-        judge.print(0);
-        judge.walk(1);
+        Edges.dress(judge, 0, 1);
+        Edges.tape(judge);
     }
 
     static void promise37_make3ItWouldHave7Layers() {
@@ -443,7 +443,8 @@ public final class RefusedEdgesTest {
             j.undo();
             j.undo();
             j.undo();
-            j.walk(1);
+            Edges.dress(j, 0, 1);
+            Edges.tape(j);
         }, TestJudge::undo, 5);
     }
 
@@ -451,8 +452,9 @@ public final class RefusedEdgesTest {
         noProgram("print()", TestJudge::print);
         EDGES.refused("print(0) of 61 RESTS", j -> {
             Asked.load(j, "tests b c d;acts p;zero c p (c+!d b) p (b+!d);let x=(p p p p+!d p !c)*;let y=d;");
-            j.print(1);
-            j.walk(0);
+            j.make(2, 1, 0, 0);
+            Edges.dress(j, 1, 0);
+            Edges.tape(j);
         }, j -> j.print(0), 3);
     }
 
@@ -485,15 +487,100 @@ public final class RefusedEdgesTest {
         ASKED.denied("3", j, j.make(0, 0, 0, 0), 3);
     }
 
-    static void terms3_status0BehindWhatIsFine() {
+    /** Behind a call with another STATUS, one that is fine has 0. */
+    private static void fine(String call, int status, Edges.Call asked) {
         TestJudge j = new TestJudge();
         Edges.rich(j);
-        j.many(8);
-        ASKED.given("atoms(2)", j, j.atoms(2), 0);
-        j.many(8);
-        ASKED.given("assume(0, true)", j, j.assume(0, true), 2);
-        j.many(8);
-        ASKED.given("undo()", j, j.undo(), 3);
+        if (status == 1) {
+            j.many(8);
+        } else {
+            j.atoms(5);
+        }
+        ASKED.due(call + ": the one ahead of it", j.status(), status);
+        long answer = asked.on(j);
+        ASKED.due(call + ": an answer", answer >= 0 ? 1 : 0, 1);
+        ASKED.due(call + ": its status", j.status(), 0);
+    }
+
+    private interface Visitor {
+        void on(String call, Edges.Call asked);
+    }
+
+    /** All calls that ask, each so that a rich one has an answer. */
+    private static void asking(Visitor visitor) {
+        for (int i = 0; i < 8; i++) {
+            int what = i;
+            visitor.on("many(" + i + ")", j -> j.many(what));
+        }
+        for (int i = 0; i < 2; i++) {
+            int what = i;
+            visitor.on("program(0, " + i + ")", j -> j.program(0, what));
+            visitor.on("fact(0, " + i + ")", j -> j.fact(0, what));
+        }
+        for (int i = 0; i < 3; i++) {
+            int what = i;
+            visitor.on("uses(0, " + i + ")", j -> j.uses(0, what));
+        }
+        for (int i = 0; i < 4; i++) {
+            int what = i;
+            visitor.on("walked(" + i + ")", j -> j.walked(what));
+        }
+        visitor.on("atoms()", j -> j.atoms(0));
+        visitor.on("count()", j -> j.count(0, 0));
+        visitor.on("least()", j -> j.least(0));
+        visitor.on("greatest()", j -> j.greatest(0));
+        visitor.on("first(0, NONE)", j -> j.first(0, NONE));
+        visitor.on("first(0, 0)", j -> j.first(0, 0));
+        askingOfTwo(visitor);
+        visitor.on("rests()", j -> j.rests(2));
+        visitor.on("rest()", j -> j.rest(0, 0));
+        visitor.on("next()", j -> j.next(0, 0, 1, 0));
+        visitor.on("clear()", j -> j.clear(0));
+        visitor.on("far()", j -> j.far(0, 0));
+        visitor.on("right()", j -> j.right(0, 0, 0));
+        visitor.on("weakest()", j -> j.weakest(0, 0));
+        visitor.on("strongest()", j -> j.strongest(0, 0));
+        visitor.on("keeps()", j -> j.keeps(0, 0));
+    }
+
+    private static void askingOfTwo(Visitor visitor) {
+        visitor.on("equal()", j -> j.equal(0, 1));
+        visitor.on("within()", j -> j.within(0, 1));
+        visitor.on("telling(0, 1, NONE)", j -> j.telling(0, 1, NONE));
+        visitor.on("telling(0, 1, 0)", j -> j.telling(0, 1, 0));
+        visitor.on("whose()", j -> j.whose(0, 1));
+        visitor.on("same()", j -> j.same(0));
+        visitor.on("kinds()", TestJudge::kinds);
+        visitor.on("swaps()", j -> j.swaps(0, 1));
+        visitor.on("both()", j -> j.both(0, 1, 0));
+        visitor.on("needs()", j -> j.needs(0, 0));
+        visitor.on("fewest()", j -> j.fewest(0, 0));
+    }
+
+    private static void acting(Visitor visitor) {
+        visitor.on("load()", j -> j.load(0));
+        visitor.on("walk()", j -> j.walk(0));
+        visitor.on("step()", j -> j.step(0, 0));
+        visitor.on("make()", j -> j.make(0, 0, 0, 0));
+        visitor.on("drop()", j -> j.drop(0));
+        visitor.on("assume()", j -> j.assume(0, true));
+        visitor.on("undo()", TestJudge::undo);
+        visitor.on("print()", j -> j.print(2));
+    }
+
+    static void terms3_status0BehindEachCallThatIsFine() {
+        for (int status = 1; status <= 2; status++) {
+            int ahead = status;
+            asking((call, asked) -> fine(call, ahead, asked));
+            acting((call, asked) -> fine(call, ahead, asked));
+        }
+    }
+
+    static void terms3_askingChangesNothing() {
+        asking((call, asked) -> EDGES.alike(call, j -> {
+            Edges.rich(j);
+            asked.on(j);
+        }, Edges::rich));
     }
 
     static void terms3_theFirstThatHolds() {

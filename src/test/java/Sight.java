@@ -1,7 +1,11 @@
 import java.util.NoSuchElementException;
 
-/** For the tests: all that can be seen of a judge, a line for each answer; the calls (some 300) use it up. */
+/**
+ * For the tests: what can be seen of a judge, a line for each answer. The calls use the judge up, so that
+ * each side of it is looked at with a judge of its own; few of them are refused ones.
+ */
 final class Sight {
+    static final int SIDES = 7;
     private static final int MOST_OUT = 40;
 
     private final TestJudge judge;
@@ -11,14 +15,17 @@ final class Sight {
         this.judge = judge;
     }
 
-    static String of(TestJudge judge) {
+    static String of(TestJudge judge, int side) {
         Sight sight = new Sight(judge);
-        sight.latest();
-        sight.held();
-        sight.goOn();
-        sight.takeBack();
-        sight.layers();
-        sight.tape();
+        switch (side) {
+            case 0 -> sight.fault();
+            case 1 -> sight.out();
+            case 2 -> sight.held();
+            case 3 -> sight.walk();
+            case 4 -> sight.takeBack();
+            case 5 -> sight.layers();
+            default -> sight.tape();
+        }
         return sight.seen.toString();
     }
 
@@ -27,12 +34,12 @@ final class Sight {
         return answer;
     }
 
-    private void latest() {
+    private void fault() {
         see("fault(0)", judge.fault(0));
         see("fault(1)", judge.fault(1));
-        for (int what = 0; what < 4; what++) {
-            see("walked(" + what + ")", judge.walked(what));
-        }
+    }
+
+    private void out() {
         for (int i = 0; i < MOST_OUT; i++) {
             try {
                 see("out(" + i + ")", judge.out(i));
@@ -46,7 +53,8 @@ final class Sight {
         for (int what = 0; what < 8; what++) {
             see("many(" + what + ")", judge.many(what));
         }
-        for (int fact = 0; fact < 2; fact++) {
+        int facts = judge.many(3);
+        for (int fact = 0; fact < facts; fact++) {
             see("fact(" + fact + ", 0)", judge.fact(fact, 0));
             see("fact(" + fact + ", 1)", judge.fact(fact, 1));
         }
@@ -59,8 +67,11 @@ final class Sight {
         }
     }
 
-    /** By the first letter that the walk takes. */
-    private void goOn() {
+    /** Where it is, and on by the first letter that it takes. */
+    private void walk() {
+        for (int what = 0; what < 4; what++) {
+            see("walked(" + what + ")", judge.walked(what));
+        }
         for (int i = 0; i < 8; i++) {
             if (see("step(" + i / 2 + ", " + i % 2 + ")", judge.step(i / 2, i % 2)) >= 0) {
                 break;
@@ -71,14 +82,16 @@ final class Sight {
     }
 
     private void takeBack() {
-        for (int i = 0; i < 9 && see("undo()", judge.undo()) >= 0; i++) {
+        int left = (int) see("many(6)", judge.many(6));
+        for (int i = 0; i < left; i++) {
+            see("undo()", judge.undo());
             see("many(5)", judge.many(5));
             int programs = (int) see("many(2)", judge.many(2));
             for (int p = 0; p < programs; p++) {
                 see("count(" + p + ", 1)", judge.count(p, 1));
             }
         }
-        see("walked(0)", judge.walked(0));
+        see("undo() at last", judge.undo());
     }
 
     /** Of the two last programs: how often something can be made of them, one behind the other. */
@@ -100,7 +113,6 @@ final class Sight {
     private void tape() {
         int size = (int) see("feed()", judge.feed(0x3f3f3f3f, 0, 0, 0, 0));
         see("load()", judge.load(size < 0 ? 500 : size));
-        see("fault(0)", judge.fault(0));
-        see("fault(1)", judge.fault(1));
+        fault();
     }
 }

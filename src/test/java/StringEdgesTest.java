@@ -46,9 +46,10 @@ public final class StringEdgesTest {
         one.print(1);
         one.walk(2);
         one.many(9);
-        TestJudge other = new TestJudge();
-        ASKED.due("status()", other.status(), 0);
-        EDGES.unchanged("a new object beside another one", other, new TestJudge());
+        EDGES.alike("a new object beside another one", j -> {
+            Asked.told(FULL).many(9);
+            ASKED.due("status()", j.status(), 0);
+        }, Edges::empty);
         ASKED.given("the one, behind it", one, one.many(2), 7);
     }
 

@@ -54,12 +54,10 @@ public final class TextEdgesTest {
             Edges.withoutTape(j);
             feed(j, padded("let k=1;", ' ', 500, "let k=0;"));
         };
-        TestJudge one = new TestJudge();
-        full.on(one);
-        ASKED.due("feed()", one.feed(1, 2, 3, 4, 5), NONE);
-        TestJudge other = new TestJudge();
-        full.on(other);
-        EDGES.unchanged("feed() of a full tape", one, other);
+        EDGES.alike("feed() of a full tape", j -> {
+            full.on(j);
+            ASKED.due("feed()", j.feed(1, 2, 3, 4, 5), NONE);
+        }, full);
     }
 
     static void promise03_feedHasNoStatus() {
