@@ -1335,7 +1335,9 @@ public final class TestJudge {
 
         void begin(World world, int facts, Piece x, Piece y) {
             for (int i = 0; i < met && i < SITUATIONS; i++) {
-                numbers[situations[i]] = 0;
+                if (fits(situations[i])) {
+                    numbers[situations[i]] = 0;
+                }
             }
             met = 0;
             one.take(x);
@@ -1346,8 +1348,16 @@ public final class TestJudge {
             meet(START, 0, 0);
         }
 
+        /** Situations and their numbers are below the same bound. */
+        private static boolean fits(int index) {
+            return index >= 0 && index < SITUATIONS;
+        }
+
         /** The number of a situation, which is met from another one by a letter if it is new. */
         private int meet(int situation, int from, int letter) {
+            if (!fits(situation)) {
+                return NONE;
+            }
             if (numbers[situation] == 0 && met < SITUATIONS) {
                 situations[met] = situation;
                 came[met] = from * LETTERS + letter;
@@ -1376,7 +1386,7 @@ public final class TestJudge {
          */
         void goOn(int number, boolean shared) {
             Arrays.fill(behind, NONE);
-            for (int atom = 0; atom < atoms; atom++) {
+            for (int atom = 0; atom < ATOMS && atom < atoms; atom++) {
                 if ((free >> atom & 1) != 0) {
                     goOnBy(number, atom, shared);
                 }
@@ -1387,7 +1397,7 @@ public final class TestJudge {
             int x = one.goes(oneSet, atom);
             int y = other.goes(otherSet, atom);
             int z = bar.goes(barSet, atom);
-            for (int act = 0; act < acts; act++) {
+            for (int act = 0; act < MOST_ACTS && act < acts; act++) {
                 int xs = x & one.actPlaces(act) & 63;
                 int ys = y & other.actPlaces(act) & 63;
                 int zs = z & bar.actPlaces(act) & 3;
@@ -1421,7 +1431,7 @@ public final class TestJudge {
 
         int foundLength() {
             int length = 0;
-            for (int at = found; at > 0 && length < SITUATIONS; length++) {
+            for (int at = found; at > 0 && at < SITUATIONS && length < SITUATIONS; length++) {
                 at = came[at] / LETTERS;
             }
             return length;
@@ -1436,10 +1446,10 @@ public final class TestJudge {
                 return foundAtom;
             }
             int at = found;
-            for (int i = length - 1; i > k / 2; i--) {
+            for (int i = length - 1; i > k / 2 && fits(at); i--) {
                 at = came[at] / LETTERS;
             }
-            int letter = came[at] % LETTERS;
+            int letter = fits(at) ? came[at] % LETTERS : 0;
             return k % 2 == 0 ? letter / MOST_ACTS : letter % MOST_ACTS;
         }
 
@@ -1571,7 +1581,7 @@ public final class TestJudge {
 
         private int kindBehind(int i, int letter) {
             int to = rawTargets[i * LETTERS + letter];
-            return to < 0 ? NONE : kind[to];
+            return to < 0 || to >= raw ? NONE : kind[to];
         }
 
         /** By the atoms that are strings. */
@@ -1631,6 +1641,9 @@ public final class TestJudge {
         }
 
         private int numberOf(int which, int far) {
+            if (which < 0 || which >= MOST) {
+                return NONE;
+            }
             if (numbers[which] == NONE && size < MOST) {
                 numbers[which] = size;
                 sample[size] = which;
@@ -1650,7 +1663,7 @@ public final class TestJudge {
                     int atoms = reach[k];
                     for (int letter = 0; letter < LETTERS; letter++) {
                         int to = targets[k * LETTERS + letter];
-                        atoms |= to < 0 ? 0 : reach[to];
+                        atoms |= has(to) ? reach[to] : 0;
                     }
                     more |= atoms != reach[k];
                     reach[k] = atoms;
@@ -1697,7 +1710,7 @@ public final class TestJudge {
             int atoms = ends[0] & ahead;
             for (int letter = 0; letter < LETTERS; letter++) {
                 int to = targets[letter];
-                atoms |= to < 0 || (ahead >> letter / MOST_ACTS & 1) == 0 ? 0 : reach[to];
+                atoms |= has(to) && (ahead >> letter / MOST_ACTS & 1) != 0 ? reach[to] : 0;
             }
             return atoms;
         }
@@ -1738,7 +1751,7 @@ public final class TestJudge {
                 more = false;
                 for (int i = 0; i < size * LETTERS; i++) {
                     int to = targets[i];
-                    if (to >= 0 && finer[to] <= finer[i / LETTERS]) {
+                    if (has(to) && finer[to] <= finer[i / LETTERS]) {
                         finer[to] = finer[i / LETTERS] + 1;
                         length = Math.max(length, finer[to]);
                         more = true;
