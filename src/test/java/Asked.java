@@ -7,6 +7,7 @@ final class Asked {
 
     Asked(String test) {
         this.test = test;
+        Watch.start(test);
     }
 
     void part(String name) {

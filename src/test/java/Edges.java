@@ -44,7 +44,9 @@ final class Edges {
                 }
             }
         }
+        asked.part("all");
         asked.due("no case in " + cases.getName(), ran == 0 ? 1 : 0, 0);
+        System.out.println(cases.getName() + ": " + ran + " cases");
         asked.end();
     }
 

@@ -14,6 +14,7 @@ public final class ExtremesTest {
     private static final List<String> WITHOUT_STATUS = List.of("status", "feed", "fault", "out");
 
     public static void main(String[] args) throws IllegalAccessException {
+        Watch.start("ExtremesTest");
         List<Method> face = new ArrayList<>();
         for (Method m : TestJudge.class.getDeclaredMethods()) {
             if (Modifier.isPublic(m.getModifiers())) {

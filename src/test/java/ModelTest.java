@@ -21,6 +21,9 @@ public final class ModelTest {
     }
 
     public static void main(String[] args) {
+        if (args.length == 0) {
+            Watch.start("ModelTest");
+        }
         int runs = args.length > 0 ? Integer.parseInt(args[0]) : RUNS;
         int from = args.length > 1 ? Integer.parseInt(args[1]) : 0;
         for (int seed = from; seed < from + runs && wrong < 10; seed++) {

@@ -10,6 +10,7 @@ public final class RoomTest {
     private static long sink = 0;
 
     public static void main(String[] args) {
+        Watch.start("RoomTest");
         StringBuilder heavy = new StringBuilder("tests b c d;acts p;zero !c p (c+!d b) p (b+!d);");
         String[] programs = {"((b+!d)p p(c+!d b)p p!c+d p(!b+c d))*", "(!b p p(c+!d b)p p!d+!d p!b d)*",
             "(!d p c+p(b+!d)p p(b+c)p(b+!d))*", "((c+!d b)p p(b+!d)p p(b+!d)+p(!b+c d))*", "(b p d+!c p p p p(c+!d b))*",
